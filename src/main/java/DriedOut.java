@@ -522,10 +522,8 @@ public final class DriedOut {
             wet[at] = itsWet;
             width[at] = itsWidth;
             number[at] = itsNumber;
-            nailed[at] = 0;
             if (at > 0) {
                 wide[at - 1] = itsGap;
-                stuffing[at - 1] = 0;
                 fast[at - 1] = 1;
             }
             size++;
@@ -596,17 +594,13 @@ public final class DriedOut {
             days = n;
             System.arraycopy(boat.wet, 0, wets, 0, boat.size);
             for (int d = 0; d < n; d++) {
-                soakOneDay(d);
+                for (int i = 0; i < boat.size; i++) {
+                    int wet = wetBehind(d, i) + takesUp(d, i);
+                    wets[(d + 1) * MOST_PLANKS + i] = Math.min(MOST_WET, wet);
+                }
             }
             for (int g = 0; g < boat.gaps(); g++) {
                 stuff(g, boat.stuffing[g]);
-            }
-        }
-
-        private void soakOneDay(int d) {
-            for (int i = 0; i < boat.size; i++) {
-                int wet = wetBehind(d, i) + takesUp(d, i);
-                wets[(d + 1) * MOST_PLANKS + i] = Math.min(MOST_WET, wet);
             }
         }
 
@@ -1052,21 +1046,19 @@ public final class DriedOut {
             }
             waits = 0;
             for (int i = part == 0 ? 0 : steps.partEnds[part - 1]; i < steps.partEnds[part]; i++) {
-                take(steps.row[i], names);
+                int step = steps.row[i];
+                if (step >= 0) {
+                    push(step < Token.NAME ? step : names[step - Token.NAME]);
+                } else if (step == Token.TURN) {
+                    push(-pop());
+                } else if (step == Token.NOT) {
+                    push(pop() == 0 ? 1 : 0);
+                } else {
+                    int right = pop(), left = pop();
+                    push(joined(step, left, right));
+                }
             }
             return waits == 1 ? waiting[0] : 0;
-        }
-
-        private void take(int step, int[] names) {
-            if (step >= 0) {
-                push(step < Token.NAME ? step : names[step - Token.NAME]);
-            } else if (step == Token.NOT || step == Token.TURN) {
-                int v = pop();
-                push(step == Token.TURN ? -v : truth(v == 0));
-            } else {
-                int right = pop(), left = pop();
-                push(joined(step, left, right));
-            }
         }
 
         private void push(int v) {
@@ -1084,16 +1076,12 @@ public final class DriedOut {
             return waiting[waits];
         }
 
-        private static int truth(boolean so) {
-            return so ? 1 : 0;
-        }
-
         private static int joined(int step, int left, int right) {
             switch (step) {
-                case Token.OR: return truth(left != 0 || right != 0);
-                case Token.AND: return truth(left != 0 && right != 0);
-                case Token.LESS: return truth(left < right);
-                case Token.EQUAL: return truth(left == right);
+                case Token.OR: return left != 0 || right != 0 ? 1 : 0;
+                case Token.AND: return left != 0 && right != 0 ? 1 : 0;
+                case Token.LESS: return left < right ? 1 : 0;
+                case Token.EQUAL: return left == right ? 1 : 0;
                 case Token.PLUS: return left + right;
                 case Token.MINUS: return left - right;
                 default: return left * right;

@@ -1,6 +1,6 @@
 /** Long runs of calls on DriedOut and on Model side by side: both must answer alike. */
 public final class AgainstModelTest {
-    private static final int RUNS = 250, CALLS = 512, TEXTS = 20000;
+    private static final int RUNS = 120, CALLS = 512, TEXTS = 20000;
     private static int wrong;
 
     private final Dice dice;

@@ -170,6 +170,9 @@ public final class PromisesTest {
             due("grows, kind " + kind + ", dry", x.told(2, 3), dry[kind]);
             due("grows, kind " + kind + ", 300", x.told(3, 3), most[kind]);
         }
+        DriedOut near = new DriedOut();
+        near.plank(0, 98204, 0);
+        due("19992 by 2000", near.told(0, 3), 9);
         DriedOut x = new DriedOut();
         x.plank(1, 10, 2);
         x.plank(1, 10, 3);
@@ -369,6 +372,11 @@ public final class PromisesTest {
         fault("soak 1;leak 2;dries 3;\t", 22);
         fault("soak wett;", 5);
         fault("soak we;", 5);
+        fault("soak bet;", 5);
+        fault("soak wat;", 5);
+        fault("soak wex;", 5);
+        fault("soak wetz;", 5);
+        fault("soak weta;", 5);
         fault("soa 1;", 0);
         fault("soaks 1;", 0);
         fault("Soak 1;", 0);
@@ -377,6 +385,7 @@ public final class PromisesTest {
         fault("soak 1/2;", 6);
         fault("soak 1>2;", 6);
         fault("soak 12345;", 5);
+        fault("soak 90909;", 5);
         fault("soak 00001;", 5);
         fault("soak 1 or;", 9);
         fault("soak or 1;", 5);
@@ -867,6 +876,9 @@ public final class PromisesTest {
         due("it goes with 0 too", y.most(0), 100);
         y.set(2, 0, 10);
         due("0 are borne", y.most(0), 0);
+        y.set(2, 0, 11);
+        due("1 is borne", y.most(0), 1);
+        y.set(2, 0, 10);
         y.plank(4, 200, 0);
         due("another one that goes does not matter", y.most(0), 0);
         DriedOut z = ruled("soak 1;leak 1;dries 0;");
@@ -901,6 +913,16 @@ public final class PromisesTest {
         due("48: 2", x.far(77), 38);
         x.set(2, 0, 49);
         due("49: 3", x.far(77), 25);
+        DriedOut y = new DriedOut();
+        y.plank(0, 10, 0);
+        due("y: nothing comes in", y.far(50), 999);
+        y.set(1, 0, 5);
+        due("y: as it is now", y.far(50), 50 / 3);
+        y.plank(0, 10, 200);
+        due("y: as it is now, by a gap", y.far(50), 50 / 4);
+        y.tight();
+        y.set(2, 0, 100);
+        due("y: not as it was foreseen", y.far(50), 50 / 11);
     }
 
     // Promise 19
@@ -923,6 +945,14 @@ public final class PromisesTest {
         x.set(1, 1, 2);
         due("30 by 37: above", x.nails(0), 30);
         due("30 by 37: below", x.nails(1), 37);
+        DriedOut y = ruled("soak 100;leak 1;dries 0;");
+        y.plank(0, 200, 0);
+        y.plank(0, 200, 30);
+        y.set(1, 0, 3);
+        y.tight();
+        due("30 by 33, as it is now: above", y.nails(0), 10);
+        y.set(2, 0, 5);
+        due("30 by 35, as it is now: below", y.nails(1), 7);
     }
 
     // Promises 20, 21
@@ -1024,6 +1054,10 @@ public final class PromisesTest {
         x.feed(3, 0);
         int[] want = {4, 2, 2, 9, 2, 3, 1, 6, 77, 7, BAD};
         for (int k = 0; k < want.length; k++) due("count(" + k + ")", x.count(k), want[k]);
+        x.set(2, 0, 9);
+        due("one more is open", x.count(1), 3);
+        x.set(3, 2, 100);
+        due("one is stuffed", x.count(1), 2);
         due("count(-1)", x.count(-1), BAD);
         due("count(MIN)", x.count(MIN), BAD);
         due("count(MAX)", x.count(MAX), BAD);
@@ -1064,6 +1098,12 @@ public final class PromisesTest {
         due("a plank", x.planks(3, 2, 0, 1), 1);
         x.sheet(3, 2, 3);
         due("all 0 again", x.planks(3, 2, 0, 1), 0);
+        for (int i = 0; i < 3; i++) x.cell(3, i, 5);
+        x.sheet(3, 1, 3);
+        x.cell(3, 1, 10);
+        due("all 0, but for a WIDTH", x.planks(3, 1, 0, 1), 1);
+        due("its KIND is 0", x.told(1, 0), 0);
+        due("its NUMBER is 0", x.told(1, 7), 0);
     }
 
     // Promise 24

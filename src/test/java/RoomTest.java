@@ -6,6 +6,8 @@ public final class RoomTest {
         (com.sun.management.ThreadMXBean) ManagementFactory.getThreadMXBean();
 
     public static void main(String[] args) {
+        // once ahead, so that what the machine makes when it first meets a class isn't counted
+        for (int i = 0; i < 20; i++) callAll(new DriedOut(), i);
         DriedOut x = new DriedOut();
         used();
         long empty = used() - used();
