@@ -50,24 +50,19 @@ public final class PromisesTest {
     }
 
     private static void feed(DriedOut x, String text) {
-        for (int i = 0; i < text.length(); i++) x.feed(1, text.charAt(i));
+        Boats.feed(x, text);
     }
 
     private static int text(DriedOut x, String text) {
-        feed(x, text);
-        return x.text();
+        return Boats.text(x, text);
     }
 
-    /** A text is fed, read and THE RULE. */
     private static DriedOut rule(DriedOut x, String text) {
-        int n = text(x, text);
-        due("text() of " + text, n >= 1 ? 1 : n, 1);
-        x.force(n);
-        return x;
+        return Boats.rule(x, text);
     }
 
     private static DriedOut ruled(String text) {
-        return rule(new DriedOut(), text);
+        return Boats.ruled(text);
     }
 
     private static void constants() {
