@@ -1,52 +1,52 @@
 /** Each promise, with answers worked out by hand from the document. */
 public final class PromisesTest {
-    private static final Checks C = new Checks();
+    private static final Sentences S = new Sentences();
     private static final int BAD = -2, STATE = -3, FULL = -4, NONE = -1;
     private static final long NO = -4611686018427387904L;
     private static final int MIN = Integer.MIN_VALUE, MAX = Integer.MAX_VALUE;
 
     public static void main(String[] args) {
-        constants();
-        newObject();
-        plank();
-        set();
-        toldGrows();
-        toldTakesUp();
-        toldBears();
-        toldRest();
-        gap();
-        feed();
-        textsThatStand();
-        textValues();
-        textFaults();
-        textDepth();
-        textFull();
-        force();
-        comes();
-        run();
-        runFastenings();
-        lay();
-        air();
-        lastDay();
-        tight();
-        out();
-        sack();
-        first();
-        most();
-        far();
-        nails();
-        imageAndBack();
-        count();
-        sheet();
-        cell();
-        copy();
-        planks();
-        taken();
-        C.end();
+        S.of("The public face: its constants", PromisesTest::constants);
+        S.of("Promise 1: A new object", PromisesTest::newObject);
+        S.of("Promise 2: plank", PromisesTest::plank);
+        S.of("Promise 3: set", PromisesTest::set);
+        S.of("Promise 4: told, GROWS", PromisesTest::toldGrows);
+        S.of("Promise 4: told, TAKES UP", PromisesTest::toldTakesUp);
+        S.of("Promise 4: told, BEARS", PromisesTest::toldBears);
+        S.of("Promise 4: told", PromisesTest::toldRest);
+        S.of("Promise 5: gap", PromisesTest::gap);
+        S.of("Promise 6: feed", PromisesTest::feed);
+        S.of("Promise 7: text, that stands", PromisesTest::textsThatStand);
+        S.of("Promise 7: text, what its E is", PromisesTest::textValues);
+        S.of("Promise 7: text, its FAULT", PromisesTest::textFaults);
+        S.of("Promise 7: text, 5 that are open", PromisesTest::textDepth);
+        S.of("Promise 7: text, FULL", PromisesTest::textFull);
+        S.of("Promise 8: force", PromisesTest::force);
+        S.of("Promise 9: comes", PromisesTest::comes);
+        S.of("Promise 10: run", PromisesTest::run);
+        S.of("Promise 10: run, fastenings", PromisesTest::runFastenings);
+        S.of("Promise 11: lay", PromisesTest::lay);
+        S.of("Promise 12: air", PromisesTest::air);
+        S.of("Promises 11 and 12: lay, air, the last DAY", PromisesTest::lastDay);
+        S.of("Promise 13: tight", PromisesTest::tight);
+        S.of("Promise 14: out", PromisesTest::out);
+        S.of("Promise 15: sack", PromisesTest::sack);
+        S.of("Promise 16: first", PromisesTest::first);
+        S.of("Promise 17: most", PromisesTest::most);
+        S.of("Promise 18: far", PromisesTest::far);
+        S.of("Promise 19: nails", PromisesTest::nails);
+        S.of("Promises 20 and 21: image, back", PromisesTest::imageAndBack);
+        S.of("Promise 22: count", PromisesTest::count);
+        S.of("Promise 23: sheet", PromisesTest::sheet);
+        S.of("Promise 24: cell", PromisesTest::cell);
+        S.of("Promise 25: copy", PromisesTest::copy);
+        S.of("Promise 26: planks", PromisesTest::planks);
+        S.of("Promise 27: taken", PromisesTest::taken);
+        S.end();
     }
 
     private static void due(String call, long got, long want) {
-        C.due(call, got, want);
+        S.due(call, got, want);
     }
 
     private static void feed(DriedOut x, String text) {

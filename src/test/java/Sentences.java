@@ -1,4 +1,4 @@
-/** Sentences of the document that name a boundary case, each with a test of its own. */
+/** Sentences of the document, each with a test of its own. */
 final class Sentences {
     private String sentence = "";
     private int count, wrong;
